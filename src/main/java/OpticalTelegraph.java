@@ -714,6 +714,9 @@ public final class OpticalTelegraph {
     private static final class Message {
         private int from;
         private int to;
+        private boolean goesUp;
+        private int lowest;
+        private int highest;
         private int priority;
         private int wholeLength;
         private int state;
@@ -730,6 +733,9 @@ public final class OpticalTelegraph {
         void begin(int first, int last, int itsPriority, int time) {
             from = first;
             to = last;
+            goesUp = first < last;
+            lowest = Math.min(first, last);
+            highest = Math.max(first, last);
             priority = itsPriority;
             state = UNDER_WAY;
             sentAt = time;
@@ -753,6 +759,9 @@ public final class OpticalTelegraph {
         void copyFrom(Message other) {
             from = other.from;
             to = other.to;
+            goesUp = other.goesUp;
+            lowest = other.lowest;
+            highest = other.highest;
             priority = other.priority;
             wholeLength = other.wholeLength;
             state = other.state;
@@ -769,24 +778,20 @@ public final class OpticalTelegraph {
             return state == UNDER_WAY;
         }
 
-        boolean goesUp() {
-            return from < to;
-        }
-
         boolean passesTower(int tower) {
-            return isWithin(tower, Math.min(from, to), Math.max(from, to));
+            return tower >= lowest && tower <= highest;
         }
 
         boolean passesLink(int link) {
-            return link >= Math.min(from, to) && link < Math.max(from, to);
+            return link >= lowest && link < highest;
         }
 
         int towerBefore(int link) {
-            return goesUp() ? link : link + 1;
+            return goesUp ? link : link + 1;
         }
 
         int towerBehind(int link) {
-            return goesUp() ? link + 1 : link;
+            return goesUp ? link + 1 : link;
         }
 
         boolean canUse(int link) {
@@ -795,17 +800,17 @@ public final class OpticalTelegraph {
 
         /** The link of a tower that this message would have it take, or NONE. */
         int linkFor(int tower) {
-            int onward = goesUp() ? tower : tower - 1;
-            int backward = goesUp() ? tower - 1 : tower;
+            int onward = goesUp ? tower : tower - 1;
+            int backward = goesUp ? tower - 1 : tower;
             if (canUse(onward)) {
                 return onward;
             }
             return canUse(backward) ? backward : NONE;
         }
 
-        /** Of two messages with the same rank, the one with the lower number precedes. */
+        /** Not negative; of two messages with the same rank, the one with the lower number precedes. */
         int rank() {
-            return 2 * priority + (goesUp() ? 1 : 0);
+            return 2 * priority + (goesUp ? 1 : 0);
         }
 
         /** A sign of a copy, or NONE. */
@@ -847,7 +852,7 @@ public final class OpticalTelegraph {
          * signs follow each other at twice the time of one link.
          */
         int minutesAlone() {
-            int links = Math.abs(to - from);
+            int links = highest - lowest;
             if (links == 1) {
                 return MINUTES_PER_SIGN * wholeLength;
             }
@@ -981,23 +986,20 @@ public final class OpticalTelegraph {
                 return;
             }
             for (int tower = 0; tower < towers; tower++) {
-                chooseTask(tower);
-            }
-            tasksChosen = true;
-        }
-
-        private void chooseTask(int tower) {
-            int chosen = NONE;
-            int chosenLink = NONE;
-            for (int i = 0; i < messageCount; i++) {
-                int link = messages[i].linkFor(tower);
-                if (link != NONE && (chosen == NONE || messages[i].rank() > messages[chosen].rank())) {
-                    chosen = i;
-                    chosenLink = link;
+                takenMessages[tower] = NONE;
+                takenLinks[tower] = NONE;
+                int takenRank = NONE;
+                for (int i = 0; i < messageCount; i++) {
+                    int rank = messages[i].rank();
+                    int link = rank > takenRank ? messages[i].linkFor(tower) : NONE;
+                    if (link != NONE) {
+                        takenMessages[tower] = i;
+                        takenLinks[tower] = link;
+                        takenRank = rank;
+                    }
                 }
             }
-            takenMessages[tower] = chosen;
-            takenLinks[tower] = chosenLink;
+            tasksChosen = true;
         }
 
         void passMinute() {

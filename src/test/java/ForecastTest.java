@@ -8,6 +8,7 @@ public final class ForecastTest {
         forecast();
         forecastChangesNothing();
         forecastAtItsBound();
+        forecastOfNewThings();
         effect();
         effectOfNothing();
         leastMinutes();
@@ -111,6 +112,44 @@ public final class ForecastTest {
         check.due("forecast(3)", x.forecast(3), -6);
         x.run(1);
         check.due("forecast(3)", x.forecast(3), 2008);
+    }
+
+    /** The first forecasts of an object: nothing of an earlier one can help them. */
+    private static void forecastOfNewThings() {
+        check.part("promise 25");
+        OpticalTelegraph arrived = new OpticalTelegraph();
+        Check.send(arrived, "a", 0, 1, 0);
+        arrived.run(20);
+        check.due("forecast(0) of a message that has arrived", arrived.forecast(0), 6);
+        OpticalTelegraph faulty = new OpticalTelegraph();
+        faulty.addFault(0, 1, 5);
+        faulty.addFault(2, 1, 5);
+        faulty.addFault(2, 4, 5);
+        Check.send(faulty, "a", 2, 3, 0);
+        check.due("forecast(0) with two errors", faulty.forecast(0), 14);
+        Check.send(faulty, "a", 1, 2, 1);
+        check.due("forecast(1) without errors", faulty.forecast(1), 6);
+        faulty.run(14);
+        check.due("forecast(0) after one error", faulty.forecast(0), 20);
+        OpticalTelegraph wide = new OpticalTelegraph();
+        wide.reset(8);
+        Check.send(wide, "a", 7, 0, 0);
+        check.due("forecast(0) over seven links", wide.forecast(0), 27);
+        wide.reset(3);
+        Check.send(wide, "a", 0, 2, 0);
+        check.due("forecast(0) over two links", wide.forecast(0), 12);
+        OpticalTelegraph crowded = new OpticalTelegraph();
+        for (int i = 0; i < 10; i++) {
+            Check.send(crowded, "a", 0, 1, 0);
+        }
+        for (int i = 9; i >= 0; i--) {
+            check.due("forecast(" + i + ")", crowded.forecast(i), 6 * (i + 1));
+        }
+        OpticalTelegraph late = new OpticalTelegraph();
+        late.run(100);
+        late.setDay(110, 104);
+        Check.send(late, "a", 0, 1, 0);
+        check.due("forecast(0) over a night", late.forecast(0), 112);
     }
 
     private static void effect() {

@@ -93,6 +93,23 @@ public final class LineTest {
         check.due("step(0, 0)", x.step(0, 0), 0);
         check.due("message(0, 7)", x.message(0, 7), 0);
         check.due("forecast(0)", x.forecast(0), 9);
+        resetCounts(x);
+    }
+
+    private static void resetCounts(OpticalTelegraph x) {
+        x.addFault(0, 1, 1);
+        x.run(20);
+        int[] before = {8, 1, 3, 0};
+        for (int what = 0; what < 4; what++) {
+            check.due("linkCount(0, " + what + ")", x.linkCount(0, what), before[what]);
+        }
+        check.due("message(0, 7)", x.message(0, 7), 1);
+        x.reset(4);
+        for (int what = 0; what < 4; what++) {
+            check.due("linkCount(0, " + what + ")", x.linkCount(0, what), 0);
+        }
+        x.send(0, 1, 0);
+        check.due("message(0, 7)", x.message(0, 7), 0);
     }
 
     private static void setDay() {
