@@ -1,3 +1,5 @@
+import java.util.function.IntUnaryOperator;
+
 /** Counts the answers that are not as due, and ends a test with exit code 1 if there was one. */
 final class Check {
     private int wrong;
@@ -13,6 +15,20 @@ final class Check {
         if (got != want) {
             wrong++;
             System.out.println(part + ": " + call + " answered " + got + ", due is " + want);
+        }
+    }
+
+    /**
+     * The values of an argument: all of a short range, both ends of a long one, and the first that
+     * are not allowed. The call is made on a new object each time.
+     */
+    void range(String name, int least, int most, int due, int refusal, IntUnaryOperator call) {
+        int stride = most - least > 200 ? most - least : 1;
+        for (int value = least; value <= most; value += stride) {
+            due(name + " of " + value, call.applyAsInt(value), due);
+        }
+        for (int bad : new int[] {least - 1, most + 1, Integer.MIN_VALUE, Integer.MAX_VALUE}) {
+            due(name + " of " + bad, call.applyAsInt(bad), refusal);
         }
     }
 
@@ -40,6 +56,13 @@ final class Check {
     static int send(OpticalTelegraph x, String text, int from, int to, int priority) {
         write(x, text);
         return x.send(from, to, priority);
+    }
+
+    /** Lets time pass until the time is this one. */
+    static void runTo(OpticalTelegraph x, int time) {
+        for (int now = x.value(0); now < time; now += 300) {
+            x.run(Math.min(300, time - now));
+        }
     }
 
     /** The whole reading of a copy. */
