@@ -352,6 +352,7 @@ public final class TextEdgesTest {
             Check.write(x, "zz");
             check.due("addWord in its old place", x.addWord(50, 60 + c - 'a'), -5);
             check.due("addWord of one more", x.addWord(30, 30), -5);
+            checkRows(x, c);
         }
         OpticalTelegraph x = Scenes.full("");
         for (int left = 19; left >= 0; left--) {
@@ -361,6 +362,18 @@ public final class TextEdgesTest {
         }
         check.due("value(4)", x.value(4), 0);
         check.due("removeWord() of an empty book", x.removeWord(), -6);
+    }
+
+    /** The words a to t of a full book stand in their rows, but for the one that was added again. */
+    private static void checkRows(OpticalTelegraph x, char again) {
+        for (char c = 'a'; c <= 't'; c++) {
+            x.reset(8);
+            x.clearText();
+            x.type(c);
+            x.send(0, 1, 0);
+            check.due("page of " + c + " after " + again + " was added again", x.sign(0, 0, 1), 50);
+            check.due("row of " + c + " after " + again + " was added again", x.sign(0, 0, 2), c == again ? 80 : 60 + c - 'a');
+        }
     }
 
     private static void removeKeepsSigns() {
